@@ -422,6 +422,15 @@ public final class PiperHousePromises {
         due(x.graces(), 2);
         x.step(5, 6, -1);
         due(x.graces(), NONE);
+        // GRACES ahead of the first NOTE count, too.
+        PiperHouse y = new PiperHouse();
+        open(y, 1, 3, 0x121);
+        y.step(0, 9, 1);
+        due(y.graces(), 3);
+        for (int i = 1; i < 24; i++) {
+            y.step(0, 9, -1);
+        }
+        due(y.graces(), 72);
     }
 
     private static void region() {
@@ -527,6 +536,10 @@ public final class PiperHousePromises {
         due(x.read(0), 2);
         due(x.read(-1), UNKNOWN);
         due(x.read(3), UNKNOWN);
+        x.region(1, 1, 8, 3);
+        x.hush();
+        x.syllable(3);
+        due(x.read(1), 1);
         // Ten ways a STEP: five NOTES (0 .. 4), each by two MOVEMENTS whose GRACE is another NOTE.
         x.hush();
         PiperHouse y = new PiperHouse();
@@ -592,6 +605,17 @@ public final class PiperHousePromises {
         due(x.first(1, 1), 18);
         x.syllable(31);
         due(x.first(0, 0), NONE);
+        // What was READ of a longer SONG does not linger.
+        x.hush();
+        for (int i = 0; i < 12; i++) {
+            x.syllable(0);
+        }
+        due(x.first(0, 11), 1);
+        due(x.first(0, 12), NONE);
+        x.hush();
+        x.syllable(0);
+        due(x.first(0, 0), 0);
+        due(x.first(0, 1), NONE);
         for (int far : FAR) {
             due(x.first(far, 0), UNKNOWN);
             due(x.first(0, far), far < 0 ? OUTSIDE : NONE);
@@ -617,6 +641,20 @@ public final class PiperHousePromises {
         due(x.home(), NONE);
         x.hush();
         due(x.home(), 0);
+        // MANY rows are alike, however many: the least REGION.
+        PiperHouse y = new PiperHouse();
+        for (int n = 0; n < 9; n++) {
+            y.region(0, 1, n, 0);
+            y.region(1, 1, n, n < 7 ? 0 : 1);
+            y.region(2, 1, n, 1);
+        }
+        for (int i = 0; i < 12; i++) {
+            y.syllable(0);
+        }
+        due(y.read(0), MANY);
+        due(y.read(1), MANY);
+        due(y.read(2), 0);
+        due(y.home(), 0);
     }
 
     private static void rule() {
@@ -885,6 +923,8 @@ public final class PiperHousePromises {
         due(x.least(1), 6);
         due(x.tell(1, 1, 8), -1);
         due(x.least(1), 8);
+        due(x.tell(1, 2, 1), -1);
+        due(x.least(2), 1);
         for (int far : FAR) {
             due(x.least(far), -1);
         }
@@ -920,6 +960,22 @@ public final class PiperHousePromises {
         due(x.blamed(0, 3), 1);
         due(x.blamed(1, 1), 0);
         due(x.blamed(1, 2), UNKNOWN);
+        due(x.tell(1, 0, 3), -1);
+        due(x.blamed(1, 0), 0);
+        due(x.tell(0, 1, 2), -1);
+        due(x.blamed(1, 0), 1);
+        due(x.blamed(0, 1), 0);
+        // A SHEET as long as can be, all of it WRONG.
+        PiperHouse y = new PiperHouse();
+        y.rule(2, 4, 0x1111);
+        due(y.sheet(2, 16, 0), 0);
+        for (int c = 0; c < 64; c++) {
+            due(y.tell(0, c, 2), -1);
+        }
+        due(y.blamed(0, -1), 64);
+        due(y.blamed(0, 63), 1);
+        due(y.blamed(0, 64), UNKNOWN);
+        due(y.agreeing(), 0);
         for (int far : FAR) {
             due(x.blamed(far, -1), UNKNOWN);
             due(x.blamed(0, far), UNKNOWN);
@@ -1132,6 +1188,9 @@ public final class PiperHousePromises {
         due(x.set(999), 999);
         due(x.set(983), 999);
         due(x.set(982), 998);
+        x.tone(4, 0);
+        x.tone(0, 16);
+        due(x.set(0), 16);
         for (int n = 0; n < 9; n++) {
             x.tone(n, -300);
         }
