@@ -1040,7 +1040,7 @@ public final class PiperHouseEdges {
         due(x.set(999), 699);
     }
 
-    @Says("of several the least. ``` Refused")
+    @Says("with the least HARSH; of several the least.")
     private static void setHasNoOtherAsGood(PiperHouse x) {
         // Four TONES on each side of a middle one, which may stand anywhere among the NOTES.
         for (int middle = 0; middle < 9; middle++) {

@@ -431,6 +431,20 @@ public final class PiperHouseRefusals {
 
     // ---- Terms
 
+    @Says("UNKNOWN (no such NOTE, MOVEMENT, STEP, REGION, RULE, SHEET, CELL, PIPER)")
+    private static void eachKindMayBeUnknown() {
+        for (int side = 0; side < 2; side++) {
+            refusesAlways(UNKNOWN, "note", side == 0 ? -1 : 9);
+            refusesAlways(UNKNOWN, "movement", side == 0 ? -1 : 8, 0, 0);
+            refusesAlways(UNKNOWN, "put", side == 0 ? -1 : 24, 0);
+            refusesAlways(UNKNOWN, "read", side == 0 ? -1 : 3);
+            refusesAlways(UNKNOWN, "rule", side == 0 ? -1 : 5, 1, 9);
+            refusesAlways(UNKNOWN, "cells", side == 0 ? -1 : 3);
+            refusesAlways(UNKNOWN, "tell", 0, side == 0 ? -1 : 64, 0);
+            refusesAlways(UNKNOWN, "piper", side == 0 ? -1 : 6, 0, 0, 1, 0);
+        }
+    }
+
     @Says("the first of these that fits.")
     private static void unknownGoesAheadOfOutside() {
         refusesAlways(UNKNOWN, "movement", 8, 5, 0x9999);
