@@ -15,8 +15,9 @@ import java.util.Map;
  * One test for each sentence of the document that names a refusal: the call answers the first refusal
  * that fits, and nothing changes.
  *
- * <p>Whether something changed is seen by looking at all that can be asked, on objects that were brought
- * into the same state with the refused call and without it.
+ * <p>Whether something changed is seen by nine rows of questions over all parts of the state, put to objects
+ * that were brought into the same state with the refused call and without it. They are a wide choice, not
+ * all that can be asked: inner GRACES and LENGTHS show only in whether a MOVEMENT FITS and a STEP HOLDS.
  */
 public final class PiperHouseRefusals {
     private static final int UNKNOWN = -2, OUTSIDE = -3, NOT = -4, FULL = -5;
@@ -213,7 +214,7 @@ public final class PiperHouseRefusals {
         return s;
     }
 
-    // ---- looking at all that can be asked
+    // ---- looking at each part of the state
 
     private static final int LOOKS = 9;
 
